@@ -472,20 +472,15 @@ public final class Kerfworks {
             this.number = number;
         }
 
-        void begin(Piece whole, int sheetNumber, int wide, int high) {
+        void begin(Piece whole, int sheetNumber, int left, int top, int wide, int high) {
             this.whole = whole;
             this.sheetNumber = sheetNumber;
-            this.wide = wide;
-            this.high = high;
-            left = 0;
-            top = 0;
-            state = FREE;
-            joinPieces();
-        }
-
-        void moveTo(int left, int top) {
             this.left = left;
             this.top = top;
+            this.wide = wide;
+            this.high = high;
+            state = FREE;
+            joinPieces();
         }
 
         boolean holds(int partWide, int partHigh) {
@@ -548,19 +543,19 @@ public final class Kerfworks {
 
         int bring(int wide, int high) {
             int number = sheetCount;
-            next().begin(null, number, wide, high);
+            next().begin(null, number, 0, 0, wide, high);
             sheetCount++;
             return number;
         }
 
         private Piece next() {
-            if (pieceCount >= pieces.size()) {
-                pieces.add(new Piece(pieces.size()));
-                pieceCount = pieces.size();
-                return pieces.get(pieceCount - 1);
-            }
-            Piece piece = pieces.get(pieceCount);
+            int number = pieceCount;
             pieceCount++;
+            if (number >= 0 && number < pieces.size()) {
+                return pieces.get(number);
+            }
+            Piece piece = new Piece(number);
+            pieces.add(piece);
             return piece;
         }
 
@@ -570,28 +565,26 @@ public final class Kerfworks {
             if (whole == null || pieceCount + piecesOf(whole, wide, high) > MOST_PIECES) {
                 return null;
             }
+            Piece part = pieceOf(whole, whole.left, whole.top, wide, high);
+            part.state = Piece.TAKEN;
             whole.state = Piece.PARTED;
-            whole.part = pieceOf(whole, wide, high);
-            whole.part.moveTo(whole.left, whole.top);
-            whole.part.state = Piece.TAKEN;
+            whole.part = part;
             if (whole.wide > wide) {
-                whole.right = pieceOf(whole, whole.wide - wide, high);
-                whole.right.moveTo(whole.left + wide, whole.top);
+                whole.right = pieceOf(whole, whole.left + wide, whole.top, whole.wide - wide, high);
             }
             if (whole.high > high) {
-                whole.below = pieceOf(whole, whole.wide, whole.high - high);
-                whole.below.moveTo(whole.left, whole.top + high);
+                whole.below = pieceOf(whole, whole.left, whole.top + high, whole.wide, whole.high - high);
             }
-            return whole.part;
+            return part;
         }
 
         private static int piecesOf(Piece whole, int wide, int high) {
             return 1 + (whole.wide > wide ? 1 : 0) + (whole.high > high ? 1 : 0);
         }
 
-        private Piece pieceOf(Piece whole, int wide, int high) {
+        private Piece pieceOf(Piece whole, int left, int top, int wide, int high) {
             Piece piece = next();
-            piece.begin(whole, whole.sheetNumber, wide, high);
+            piece.begin(whole, whole.sheetNumber, left, top, wide, high);
             return piece;
         }
 
@@ -696,9 +689,11 @@ public final class Kerfworks {
             return minutes;
         }
 
+        /** copy is below the size of laid: the caller's loop ends there. */
         private boolean touchesEarlier(int copy) {
-            for (int i = 0; i < copy && copy < laid.size(); i++) {
-                if (laid.get(copy).touches(laid.get(i))) {
+            Piece piece = laid.get(copy);
+            for (int i = 0; i < copy; i++) {
+                if (piece.touches(laid.get(i))) {
                     return true;
                 }
             }

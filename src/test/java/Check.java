@@ -27,18 +27,23 @@ final class Check {
         }
     }
 
-    /** The class itself has to be thrown: what the machine throws is of a class below it. */
+    /** The class itself has to be thrown, by the program: what the machine or the library throws is a fault. */
     static void fails(String call, Class<?> due, Runnable run) {
         checked++;
         try {
             run.run();
         } catch (RuntimeException e) {
-            if (e.getClass() != due) {
-                report(call + " threw " + e + ", due is " + due.getName());
+            if (e.getClass() != due || !isThrownByTheProgram(e)) {
+                report(call + " threw " + e + ", due is " + due.getName() + " by the program");
             }
             return;
         }
         report(call + " threw nothing, due is " + due.getName());
+    }
+
+    static boolean isThrownByTheProgram(RuntimeException e) {
+        StackTraceElement[] calls = e.getStackTrace();
+        return calls.length > 0 && calls[0].getClassName().startsWith("Kerfworks");
     }
 
     static void noPlace(String call, Runnable run) {

@@ -10,6 +10,8 @@ public final class CutsTest {
         sheetsDoNotTouch();
         otherJobsDoNotTouch();
         partsApartDoNotTouch();
+        laterLeftOfEarlier();
+        laterAboveEarlier();
         cutRefuses();
         cutIsForGood();
         lengthsAreAddedAsFloats();
@@ -115,6 +117,47 @@ public final class CutsTest {
         Check.is("at the top", upright.where(3, 0, 2), 0);
         Check.is("at the bottom", upright.where(3, 1, 2), 6);
         Check.is("apart by a part", upright.cut(3), 2);
+    }
+
+    /** The first copy is laid where less is left, at the right; the second at the left of it. */
+    private static void laterLeftOfEarlier() {
+        for (int gap = 0; gap <= 1; gap++) {
+            Kerfworks shop = new Kerfworks();
+            int part = Check.rectangle(shop, 2, 4);
+            int greater = Check.rectangle(shop, 2 + gap, 5);
+            shop.sheet(9 + gap, 6);
+            shop.job(greater, 1);
+            shop.job(part, 1);
+            shop.job(part, 1);
+            shop.cut(2);
+            shop.cancel(0);
+            shop.cancel(1);
+            shop.job(part, 2);
+            Check.is("the first copy", shop.where(3, 0, 1), 3 + gap);
+            Check.is("the second copy", shop.where(3, 1, 1), 0);
+            Check.is("both in a row", shop.where(3, 0, 2), shop.where(3, 1, 2));
+            Check.is("a side in common, or a gap", shop.cut(3), gap == 0 ? 2 + 3 : 2);
+        }
+    }
+
+    private static void laterAboveEarlier() {
+        for (int gap = 0; gap <= 1; gap++) {
+            Kerfworks shop = new Kerfworks();
+            int part = Check.rectangle(shop, 4, 2);
+            int greater = Check.rectangle(shop, 5, 2 + gap);
+            shop.sheet(6, 9 + gap);
+            shop.job(greater, 1);
+            shop.job(part, 1);
+            shop.job(part, 1);
+            shop.cut(2);
+            shop.cancel(0);
+            shop.cancel(1);
+            shop.job(part, 2);
+            Check.is("the first copy", shop.where(3, 0, 2), 3 + gap);
+            Check.is("the second copy", shop.where(3, 1, 2), 0);
+            Check.is("both in a column", shop.where(3, 0, 1), shop.where(3, 1, 1));
+            Check.is("a side in common, or a gap", shop.cut(3), gap == 0 ? 2 + 3 : 2);
+        }
     }
 
     private static void cutRefuses() {

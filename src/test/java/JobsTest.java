@@ -8,15 +8,20 @@ public final class JobsTest {
         sheetRefuses();
         sheetRefusesBeyond400Pieces();
         lastPiecesAreUsed();
+        twoPiecesAreLeft();
         freeTells();
         partTakesTheWhole();
         partLeavesTwoPieces();
         partTakesTheLeastArea();
+        partTakesTheLeastAreaAlsoTurned();
+        belowOfWhatIsRight();
         sameAreaGoesToTheLowestNumber();
         partIsNeverTurned();
         jobRefuses();
         jobLaysAllOrNone();
         numbersAreGivenAgain();
+        sheetAfterAJobThatWaits();
+        wholeIsFreeAgainWhateverWasLaid();
         goneNumbersAreNotGivenAgain();
         cancelJoinsOutward();
         cancelKeepsWhatIsNotAllFree();
@@ -109,6 +114,24 @@ public final class JobsTest {
         Check.noState("a sheet", () -> shop.sheet(1, 1));
     }
 
+    /** A part as wide as the whole leaves nothing to the right, one as high leaves nothing below. */
+    private static void twoPiecesAreLeft() {
+        for (int turned = 0; turned <= 1; turned++) {
+            Kerfworks shop = new Kerfworks();
+            int small = Check.rectangle(shop, 2, 2);
+            int flat = turned == 0 ? Check.rectangle(shop, 4, 2) : Check.rectangle(shop, 2, 4);
+            use397Pieces(shop, small);
+            shop.sheet(turned == 0 ? 5 : 9, turned == 0 ? 9 : 5);
+            shop.job(small, 1);
+            Check.is("a part that needs three waits", shop.ofJob(3, 0), Kerfworks.WAITS);
+            shop.job(flat, 1);
+            Check.is("one that needs two is nested", shop.ofJob(4, 0), Kerfworks.NESTED);
+            Check.is("the 399th piece", shop.where(4, 0, 3), 398);
+            Check.is("the 400th piece", shop.free(1), turned == 0 ? 10506 : 10605);
+            Check.noState("a sheet", () -> shop.sheet(1, 1));
+        }
+    }
+
     private static void freeTells() {
         Kerfworks shop = new Kerfworks();
         for (int place : new int[] {-1, Integer.MIN_VALUE}) {
@@ -169,6 +192,33 @@ public final class JobsTest {
         shop.sheet(2, 9);
         shop.job(drawing, 1);
         Check.is("area 33 of 40, 33, 36 and a narrow 18", shop.where(0, 0, 0), 1);
+    }
+
+    private static void partTakesTheLeastAreaAlsoTurned() {
+        Kerfworks shop = new Kerfworks();
+        int drawing = Check.rectangle(shop, 2, 2);
+        shop.sheet(4, 10);
+        shop.sheet(11, 3);
+        shop.sheet(6, 6);
+        shop.sheet(9, 2);
+        shop.job(drawing, 1);
+        Check.is("area 33 of 40, 33, 36 and a flat 18", shop.where(0, 0, 0), 1);
+    }
+
+    /** The third part is laid below the second one, which is right of the first one. */
+    private static void belowOfWhatIsRight() {
+        Kerfworks shop = new Kerfworks();
+        shop.sheet(10, 6);
+        shop.job(Check.rectangle(shop, 2, 5), 1);
+        shop.job(Check.rectangle(shop, 2, 2), 1);
+        shop.job(Check.rectangle(shop, 5, 2), 1);
+        Check.is("left of the second", shop.where(1, 0, 1), 3);
+        Check.is("top of the second", shop.where(1, 0, 2), 0);
+        Check.is("left of the third", shop.where(2, 0, 1), 3);
+        Check.is("top of the third", shop.where(2, 0, 2), 3);
+        Check.is("free(0)", shop.free(0), 403);
+        Check.is("free(1)", shop.free(1), 103);
+        Check.is("free(2)", shop.free(2), -1);
     }
 
     private static void sameAreaGoesToTheLowestNumber() {
@@ -243,6 +293,44 @@ public final class JobsTest {
         shop.job(drawing, 6);
         shop.job(drawing, 1);
         Check.is("the first number after the sheet", shop.where(2, 0, 3), 1);
+    }
+
+    private static void sheetAfterAJobThatWaits() {
+        Kerfworks shop = new Kerfworks();
+        int drawing = Check.rectangle(shop, 2, 2);
+        shop.sheet(9, 3);
+        shop.job(drawing, 1);
+        shop.job(drawing, 3);
+        shop.sheet(3, 4);
+        Check.is("the three are nested", shop.ofJob(1, 0), Kerfworks.NESTED);
+        shop.cancel(1);
+        shop.sheet(3, 3);
+        shop.job(drawing, 1);
+        Check.is("sheet", shop.where(2, 0, 0), 2);
+        Check.is("left", shop.where(2, 0, 1), 0);
+        shop.job(drawing, 4);
+        shop.sheet(2, 3);
+        Check.is("FREE", shop.free(2), 30203);
+        Check.is("no more", shop.free(3), -1);
+    }
+
+    private static void wholeIsFreeAgainWhateverWasLaid() {
+        Kerfworks shop = new Kerfworks();
+        int small = Check.rectangle(shop, 2, 2);
+        int flat = Check.rectangle(shop, 7, 6);
+        int tall = Check.rectangle(shop, 6, 7);
+        shop.sheet(8, 8);
+        int[] copies = {1, 1, 4, 4, 5, 5};
+        for (int round = 0; round < 6; round++) {
+            int job = shop.job(small, copies[round]);
+            Check.is("five do not fit", shop.ofJob(job, 0), round >= 4 ? Kerfworks.WAITS : Kerfworks.NESTED);
+            shop.cancel(job);
+            int big = shop.job(round % 2 == 0 ? flat : tall, 1);
+            Check.is("all but a strip", shop.free(0), round % 2 == 0 ? 801 : 108);
+            shop.cancel(big);
+            Check.is("the whole is FREE", shop.free(0), 808);
+            Check.is("and nothing else", shop.free(1), -1);
+        }
     }
 
     private static void goneNumbersAreNotGivenAgain() {
