@@ -427,7 +427,7 @@ public final class Kerfworks {
                 return 0;
             }
             double root = square;
-            for (int step = 0; step < 16; step++) {
+            for (int step = 0; step < 16 && root > 0; step++) {
                 root = (root + square / root) / 2;
             }
             return root;
@@ -681,18 +681,16 @@ public final class Kerfworks {
 
         int minutesFor(float drawn) {
             int minutes = copies * ((int) (drawn / 10f) + 1);
-            for (int i = 1; i < laid.size(); i++) {
-                if (touchesEarlier(i)) {
+            for (int copy = 0; copy < laid.size(); copy++) {
+                if (touchesEarlier(laid.get(copy), copy)) {
                     minutes += MINUTES_FOR_HEAT;
                 }
             }
             return minutes;
         }
 
-        /** copy is below the size of laid: the caller's loop ends there. */
-        private boolean touchesEarlier(int copy) {
-            Piece piece = laid.get(copy);
-            for (int i = 0; i < copy; i++) {
+        private boolean touchesEarlier(Piece piece, int copy) {
+            for (int i = 0; i < copy && i < laid.size(); i++) {
                 if (piece.touches(laid.get(i))) {
                     return true;
                 }
