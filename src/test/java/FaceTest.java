@@ -13,6 +13,7 @@ import java.util.regex.Pattern;
 /** The public face, and those rules of LANGUAGE.md that can be read off the class or its source. */
 public final class FaceTest {
     private static final Path SOURCE = Path.of("src/main/java/Kerfworks.java");
+    private static final Path DOCUMENT = Path.of("../shared/DOC.md");
     private static final String[] FACE = {
         "constructor ()", "drawing int ()", "stroke int (int int int)", "finish int (int)", "redraw int (int)",
         "ofDrawing int (int int)", "length float (int)", "sheet int (int int)", "job int (int int)",
@@ -30,6 +31,7 @@ public final class FaceTest {
 
     public static void main(String[] args) throws IOException {
         face();
+        faceIsTheDocuments();
         constants();
         privateNames();
         fieldsOfEachClass();
@@ -64,6 +66,22 @@ public final class FaceTest {
             }
         }
         Check.isTrue("the face is the document's: " + seen, seen.equals(new TreeSet<>(List.of(FACE))));
+    }
+
+    /** With the names of the arguments, and what each method throws, in its order. */
+    private static void faceIsTheDocuments() throws IOException {
+        String document = Files.readString(DOCUMENT);
+        int begin = document.indexOf("public final class Kerfworks {");
+        String code = Files.readString(SOURCE).replaceAll("\\s+", " ");
+        int lines = 0;
+        for (String line : document.substring(begin, document.indexOf("```", begin)).split("\n")) {
+            if (!line.isBlank() && !line.equals("}")) {
+                String due = line.strip().replaceAll("([^;{]*\\([^;]*);", "$1 {");
+                Check.isTrue("the source has " + due, code.contains(due));
+                lines++;
+            }
+        }
+        Check.is("the lines of the document's face", lines, 21);
     }
 
     private static void constants() {
